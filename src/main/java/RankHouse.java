@@ -438,27 +438,26 @@ public final class RankHouse {
             return kind % 2 == 1;
         }
 
+        void address(int newKind, int newQuestion, int newTurn, int newStep, int sender, int receiver) {
+            kind = newKind;
+            question = newQuestion;
+            turn = newTurn;
+            step = newStep;
+            from = sender;
+            to = receiver;
+            amount = 0;
+            sum = 0;
+        }
+
         void copy(Letter other) {
+            address(other.kind, other.question, other.turn, other.step, other.from, other.to);
             amount = other.amount;
             System.arraycopy(other.numbers, 0, numbers, 0, amount);
             sum = other.sum;
-            kind = other.kind;
-            question = other.question;
-            turn = other.turn;
-            step = other.step;
-            from = other.from;
-            to = other.to;
         }
 
         void replyTo(Letter asking) {
-            kind = asking.kind + 1;
-            question = asking.question;
-            turn = asking.turn;
-            step = asking.step;
-            from = asking.to;
-            to = asking.from;
-            amount = 0;
-            sum = 0;
+            address(asking.kind + 1, asking.question, asking.turn, asking.step, asking.to, asking.from);
         }
 
         void put(int number) {
@@ -548,7 +547,6 @@ public final class RankHouse {
         }
     }
 
-    /** The letters on the way. */
     private static final class Post {
         // One letter more than can be on the way: the one taken out last is still read while others are sent.
         final Letter[] sheets = new Letter[LETTERS_AT_MOST + 1];
@@ -768,14 +766,7 @@ public final class RankHouse {
             if (letter == null) {
                 return;
             }
-            letter.kind = askedKind;
-            letter.question = number;
-            letter.turn = turn;
-            letter.step = step;
-            letter.from = driver;
-            letter.to = to;
-            letter.amount = 0;
-            letter.sum = 0;
+            letter.address(askedKind, number, turn, step, driver, to);
             for (int k = 0; k < numbersAsked(); k++) {
                 letter.put(askedNumbers[k]);
             }

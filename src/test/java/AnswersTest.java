@@ -126,6 +126,7 @@ final class AnswersTest {
         Check.due("17: a = 800 is R(9) less R(1)", 80, answered(house, 4, 800, 0));
         Check.due("17: a = 1000 is R(10) less R(1)", 90, answered(house, 4, 1000, 0));
         house.record(0, 110);
+        Check.due("17: of 11, a = 200 is R(7) less R(5)", 20, answered(house, 4, 200, 0));
         Check.due("17: of 11, a = 1000 is R(11) less R(1)", 100, answered(house, 4, 1000, 0));
     }
 

@@ -9,6 +9,7 @@ final class LettersTest {
         askWithoutRoomForLetters();
         lettersOfOneQuestion();
         lettersOfACut();
+        pivotAtHalfOfOpen();
         lettersOfASum();
         letterRefuses();
         deliverOutOfTurn();
@@ -140,6 +141,20 @@ final class LettersTest {
         Check.due("7: the reading above", 120, house.answer(3));
     }
 
+    private static void pivotAtHalfOfOpen() {
+        RankHouse house = new RankHouse();
+        house.fill(0, 33, 0, 0, 0);
+        house.fill(1, 33, 9, 0, 0);
+        house.ask(7, 0, 1, 0);
+        house.run(32);
+        Check.due("7: 33 are half of 66", 0, house.letter(0, 9));
+        house.record(1, 9);
+        house.ask(7, 0, 1, 0);
+        house.forget(1);
+        house.run(32);
+        Check.due("7: 33 are less than half of 67", 9, house.letter(0, 9));
+    }
+
     private static void lettersOfASum() {
         RankHouse house = new RankHouse();
         house.fill(0, 4, Integer.MAX_VALUE - 5, 1, 0);
@@ -221,7 +236,13 @@ final class LettersTest {
         Check.due("8: it does not count", "1 1 2 0 1 1 3 0", Look.about(house, 1));
         house.takeOver(1, 1);
         house.run(16);
-        Check.due("8: an answer of an earlier TURN does not count", "1 2 1 0 0 0 1 0", Look.about(house, 1));
+        Check.due("8: a PART of the TURN before", "4 1 2 0 1 1 : 1 4", Look.letter(house, 0));
+        house.run(8);
+        Check.due("8: an answer of an earlier TURN and another STEP does not count", "1 2 1 0 0 0 1 0", Look.about(house, 1));
+        house.takeOver(1, 1);
+        Check.due("8: a FROZEN of the TURN before", "2 1 1 0 1 2 : 1", Look.letter(house, 0));
+        house.deliver(0);
+        Check.due("8: an answer of an earlier TURN and the same STEP does not count", "1 3 1 0 0 0 1 0", Look.about(house, 1));
     }
 
     private static void loseOne() {
