@@ -631,6 +631,7 @@ public final class RankHouse {
             return total;
         }
 
+        // A logger that holds none tells 0 with a count of 0: that is never the least to reach half, as open is not 0.
         int pivot(int open) {
             int pivot = Integer.MAX_VALUE;
             for (int i = 0; i < LOGGERS; i++) {
