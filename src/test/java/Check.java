@@ -28,6 +28,10 @@ final class Check {
         }
     }
 
+    static void due(String what, boolean want, boolean got) {
+        due(what, Boolean.toString(want), Boolean.toString(got));
+    }
+
     static void refused(String what, String exception, Call call) {
         due(what, "throws." + exception, outcome(call));
     }
