@@ -13,6 +13,7 @@ final class AskingBoundsTest {
         behindFreeze();
         partOfEachCount();
         partAtTheEndsOfTheSpan();
+        partOfNoneWithinTheSpan();
         giveUpToSixtyFour();
         sixtyFourBehindACut();
         halfOfOpen();
@@ -105,6 +106,23 @@ final class AskingBoundsTest {
         Check.due("PART of both ends", "2 " + LEAST, Scene.numbers(house, 0));
         Check.due("PART of the greatest int", "1 " + GREATEST, Scene.numbers(house, 1));
         Check.due("PART of the least int", "2 " + LEAST, Scene.numbers(house, 2));
+    }
+
+    private static void partOfNoneWithinTheSpan() {
+        RankHouse house = new RankHouse();
+        house.fill(0, 100, 1, 1, 0);
+        house.fill(1, 3, 10, 1, 0);
+        house.fill(2, 3, 90, 1, 0);
+        house.ask(0, 0, 1, 0);
+        // The PIVOT is 50, of 106.
+        house.run(48 + 8);
+        Check.due("PART: all are above high", "0 0", Scene.numbers(house, 2));
+        Check.due("PART: high is the last that counts", "49 25", Scene.numbers(house, 0));
+        house.ask(0, 0, 106, 0);
+        house.forget(1);
+        house.run(48 + 8);
+        Check.due("PART: all are below low", "0 0", Scene.numbers(house, 1));
+        Check.due("PART: low is the first that counts", "50 75", Scene.numbers(house, 0));
     }
 
     private static void giveUpToSixtyFour() {

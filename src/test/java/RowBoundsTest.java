@@ -18,6 +18,8 @@ final class RowBoundsTest {
         runCounts();
         runAThousand();
         numbersOfALetter();
+        nothingBehindTheLastNumber();
+        sumsOfTwins();
         Check.end();
     }
 
@@ -216,8 +218,54 @@ final class RowBoundsTest {
         Check.due("7: number 1", 1000, house.letter(1, 8));
         Check.due("7: the 64th", 1062, house.letter(1, 70));
         Check.due("7: GIVEN of none", 0, house.letter(2, 6));
-        for (int what = 7; what <= 70; what++) {
-            Check.due("7: 0, whatever the sheet held before", 0, house.letter(2, what));
+    }
+
+    /** 96 letters of 64 numbers were on the way before, so that whatever holds letters has held other numbers. */
+    private static RankHouse afterManyNumbers() {
+        RankHouse house = new RankHouse();
+        house.fill(1, 64, 1000, 1, 0);
+        house.ask(0, 0, 1, 0);
+        house.run(40);
+        Scene.letters(house, 96, 1);
+        for (int i = 0; i < 8; i++) {
+            house.lose(0);
         }
+        Scene.letters(house, 96, 87);
+        for (int i = 0; i < 96; i++) {
+            Check.due("10: each one has 64", 64, house.letter(i, 6));
+        }
+        house.forget(1);
+        return house;
+    }
+
+    private static void nothingBehindTheLastNumber() {
+        RankHouse house = afterManyNumbers();
+        house.ask(0, 2, 0, 0);
+        StringBuilder kinds = new StringBuilder();
+        for (int half = 1; half <= 12; half++) {
+            for (int i = 0; i < 8; i++) {
+                int last = 6 + house.letter(i, 6);
+                for (int what = last + 1; what <= 70; what++) {
+                    Check.due("7: 0 behind the last, kind " + house.letter(i, 0), 0, house.letter(i, what));
+                }
+            }
+            kinds.append(house.letter(0, 0)).append('-').append(house.letter(0, 6)).append(' ');
+            house.run(8);
+        }
+        Check.due("7: how many numbers each kind has", "1-0 2-1 3-2 4-2 7-2 8-0 3-2 4-2 7-2 8-0 11-2 12-4 ", kinds.toString());
+        Check.due("17: answered", 64 * 1000 + 63 * 32, house.answer(2));
+    }
+
+    private static void sumsOfTwins() {
+        RankHouse house = Scene.of(new int[] {Scene.LEAST, Scene.GREATEST}, new int[] {Scene.GREATEST - 1, Scene.GREATEST - 1, 4});
+        house.ask(0, 2, 0, 0);
+        Scene.steps(house, 5);
+        house.run(8);
+        Check.due("10: ADDED with a sum of 4294967296", "0 0 3 0", Scene.numbers(house, 1));
+        house.twin(1);
+        Check.due("10: its twin", "0 0 3 0", Scene.numbers(house, 8));
+        house.lose(1);
+        house.run(1000);
+        Check.due("10: the twin has the whole sum", 4294967296L - 1, house.answer(1));
     }
 }
