@@ -64,16 +64,18 @@ final class LifeTest {
         Check.due("6: none on the way", 0, house.letters());
     }
 
+    /** Nine calls before, ten behind: the letters' own are as many as fit between. */
     private static void lettersOneByOne() {
         RankHouse one = asking();
         RankHouse other = asking();
-        for (int call = 10; call <= CALLS; call++) {
-            int before = one.letters();
-            int left = before > 0 ? one.deliver(0) : 0;
-            Check.due("11: as deliver(0)", before > 0 ? 1 : 0, other.run(1));
-            Check.due("8: how many are on the way", left, other.letters());
+        int left = 8;
+        for (int call = 10; call <= CALLS - 10; call++) {
+            int came = left > 0 ? 1 : 0;
+            left = left > 0 ? one.deliver(0) : 0;
+            Check.due("11: as deliver(0)", came, other.run(1));
         }
-        Check.due("8 and 11: the same came of it", Look.at(one), Look.at(other));
+        Check.due("8: how many are on the way", left, other.letters());
+        Check.due("8 and 11: the same came of it", Look.about(one, 1), Look.about(other, 1));
         Check.due("8: several STEPs", true, one.about(1, 2) > 10);
     }
 
